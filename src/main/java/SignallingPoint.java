@@ -15,6 +15,8 @@ public final class SignallingPoint {
 
     private static final int MAX_LINKSETS = 4;
     private static final int MAX_LINKS = 4;
+    // The highest bit in a mask of linksets or of links.
+    private static final int LAST_PLACE = 3;
     private static final int QUEUE_ROOM = 10;
     private static final int HOLDING_ROOM = 24;
     private static final int DESTINATIONS = 6;
@@ -343,10 +345,11 @@ public final class SignallingPoint {
         return Math.floorMod(message, STREAMS);
     }
 
-    /** The place of the set bit with the given index; a mask has four places, and what is not in three is in the last. */
+    /** The place of the set bit with this index in a mask that has more set bits than that. */
     private static int setBit(int mask, int index) {
         int left = index;
-        for (int place = 0; place < 3; place++) {
+        // What is not found before the last place is there, so that every answer is a place.
+        for (int place = 0; place < LAST_PLACE; place++) {
             if ((mask >> place & 1) == 1) {
                 if (left == 0) {
                     return place;
@@ -354,7 +357,7 @@ public final class SignallingPoint {
                 left--;
             }
         }
-        return 3;
+        return LAST_PLACE;
     }
 
     private static long mix(long h, int v) {
@@ -478,7 +481,10 @@ public final class SignallingPoint {
             if (length < 4) {
                 return 0;
             }
-            return length < 6 ? 1 : length < 8 ? 2 : 3;
+            if (length < 6) {
+                return 1;
+            }
+            return length < 8 ? 2 : 3;
         }
 
         private int routesTo(int destination) {
