@@ -626,7 +626,9 @@ public final class SignallingPoint {
             for (int i = 0; i < count; i++) {
                 deliver(queues[start + i]);
             }
-            System.arraycopy(queues, start + count, queues, start, length - count);
+            for (int i = count; i < length; i++) {
+                queues[start + i - count] = queues[start + i];
+            }
             queueLengths[place] = length - count;
             return count;
         }

@@ -46,6 +46,7 @@ public final class PromiseTest {
         promise28UndoBringsBackEverything();
         promise29ErrorCount();
         promise30Digest();
+        promise30DigestOfQueuesAndRemovedRoutes();
         System.out.println(wrong == 0 ? "every promise is kept" : wrong + " answers are not as due");
         if (wrong != 0) {
             System.exit(1);
@@ -249,6 +250,23 @@ public final class PromiseTest {
         SignallingPoint y = simplePoint(1);
         sendMany(y, 10, 0, 3);
         due("5: all ten", y.acknowledge(0, 0, 10), 10);
+
+        SignallingPoint z = simplePoint(2);
+        sendMany(z, 2, 1, 0);
+        sendMany(z, 10, 0, 3);
+        due("5: seven of ten", z.acknowledge(0, 0, 7), 7);
+        for (int i = 0; i < 3; i++) {
+            due("5: the rest moves up", z.queued(0, 0, i), 9 + i);
+        }
+        due("5: the next link's first", z.queued(0, 1, 0), 0);
+        due("5: the next link's second", z.queued(0, 1, 1), 1);
+
+        SignallingPoint last = pointWith(1, 1, 1, 4);
+        last.addRoute(0, 3, 0);
+        sendMany(last, 11, 3, 3);
+        due("5: the very last queue, full", last.acknowledge(3, 3, 1), 1);
+        due("5: moves up, too", last.queued(3, 3, 8), 9);
+        due("5: and is emptied", last.acknowledge(3, 3, 10), 9);
     }
 
     private static void promise6QueueLength() {
@@ -650,6 +668,27 @@ public final class PromiseTest {
         due("21: lost", x.lost(), 1);
         x.send(0, 1, 0);
         due("21: a stream that is not held", x.queueLength(0, 1), 1);
+
+        // The second tick moves message 1 to the front of the buffer; undo puts message 0 back there.
+        SignallingPoint y = simplePoint(2);
+        y.addLinkset(2);
+        y.addRoute(1, 1, 0);
+        y.setHoldTime(2);
+        y.failLink(0, 0);
+        y.restoreLink(0, 0);
+        y.tick();
+        y.failLink(1, 0);
+        y.restoreLink(1, 0);
+        y.send(0, 0, 0);
+        y.send(1, 0, 0);
+        due("21: the first is released", y.tick(), 1);
+        due("21: the second stays", y.heldMessages(), 1);
+        y.undo();
+        due("21: both are back", y.heldMessages(), 2);
+        due("21: the first again", y.tick(), 1);
+        due("21: its number", y.queued(0, 0, 0), 0);
+        due("21: the second at last", y.tick(), 1);
+        due("21: its number, too", y.queued(1, 0, 0), 1);
     }
 
     private static void promise22Delivered() {
@@ -706,6 +745,17 @@ public final class PromiseTest {
         z.send(0, 0, 0);
         z.acknowledge(0, 0, 1);
         due("23: the same number again", z.overtaken(), 0);
+
+        SignallingPoint v = simplePoint(2);
+        v.setHoldTime(0);
+        v.failLink(0, 0);
+        v.send(0, 0, 0);
+        v.restoreLink(0, 0);
+        v.send(0, 0, 0);
+        v.acknowledge(0, 0, 1);
+        v.undo();
+        v.acknowledge(0, 1, 1);
+        due("23: what is undone overtakes nothing", v.overtaken(), 0);
     }
 
     private static void promise24Unreachable() {
@@ -750,6 +800,9 @@ public final class PromiseTest {
         due("26: congestion is looked at first", x.lost(), 1);
         due("26: congested", x.congested(), 1);
         due("26: the queue is as it was", x.queued(0, 0, 9), 9);
+        x.undo();
+        x.undo();
+        due("26: undone", x.lost(), 0);
     }
 
     private static void promise27Spread() {
@@ -895,5 +948,35 @@ public final class PromiseTest {
             }
         }
         due("30: after some calls", x.digest(), hash(h, 1, 1));
+    }
+
+    private static void promise30DigestOfQueuesAndRemovedRoutes() {
+        SignallingPoint x = pointWith(1, 2, 1, 4);
+        x.setHoldTime(0);
+        x.addRoute(5, 3, 2);
+        x.addRoute(5, 0, 1);
+        x.removeRoute(5, 0);
+        x.failLink(1, 0);
+        for (int i = 0; i < 3; i++) {
+            x.send(5, 3, 0);
+            x.send(5, 2, 0);
+        }
+        x.acknowledge(3, 2, 1);
+        long h = hash(12144, 0, 0, 0, 4, 0, 0, 6, 1, 0, 0, 0, 0, 4);
+        h = hash(h, 1, 1, 0);
+        h = hash(h, 2, 0, 0, 1, 0);
+        h = hash(h, 1, 1, 0);
+        h = hash(h, 4, 1, 0, 1, 0, 1, 2, 3, 5, 1, 3, 0, 2, 4);
+        for (int destination = 0; destination < 5; destination++) {
+            h = hash(h, NONE, NONE, NONE, NONE, NONE, NONE, NONE, NONE);
+            for (int selector = 0; selector < 16; selector++) {
+                h = hash(h, NONE, 0);
+            }
+        }
+        h = hash(h, NONE, NONE, NONE, NONE, NONE, NONE, 0, 2);
+        for (int selector = 0; selector < 16; selector++) {
+            h = hash(h, 12 + selector % 4, 0);
+        }
+        due("30: queues and a removed route", x.digest(), hash(h, 0));
     }
 }
