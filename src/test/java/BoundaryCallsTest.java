@@ -147,6 +147,7 @@ public final class BoundaryCallsTest {
         sentence(29, "INVALID (which is counted, too) if kind is out of range", BoundaryCallsTest::kindsOutOfRange);
         sentence(29, "the number of failed calls of that kind", BoundaryCallsTest::eachKindByItself);
         sentence(30, "long arithmetic, overflow wraps", BoundaryCallsTest::digestWraps);
+        sentence(30, "in this order", BoundaryCallsTest::digestKeepsTheOrder);
         sentence(30, "NONE if there is no route", BoundaryCallsTest::digestWithoutRoutes);
         sentence(30, "the number of states on the undo stack", BoundaryCallsTest::digestOfTheUndoStack);
         sentence(30, "the numbers of the messages in the holding buffer", BoundaryCallsTest::digestOfAFullBuffer);
@@ -1054,6 +1055,67 @@ public final class BoundaryCallsTest {
         x.addLinkset(0);
         values.set(0, 1);
         due("the first of many values", x.digest(), hash(values));
+    }
+
+    /** As many of each as of no other counter: 3, 2 and 1 errors, and messages of every fate. */
+    private static SignallingPoint countedPoint() {
+        SignallingPoint x = pointWith(1, 2, 3, 4);
+        for (int i = 0; i < 3; i++) {
+            x.addLinkset(0);
+        }
+        x.restoreLink(0, 0);
+        x.restoreLink(0, 0);
+        x.addLinkset(1);
+        x.setHoldTime(0);
+        x.addRoute(5, 3, 2);
+        x.failLink(3, 3);
+        x.send(5, 3, 3);
+        x.restoreLink(3, 3);
+        x.send(5, 3, 3);
+        x.acknowledge(3, 3, 1);
+        x.acknowledge(3, 0, 1);
+        for (int i = 0; i < 6; i++) {
+            x.send(4, 0, 0);
+        }
+        for (int i = 0; i < 15; i++) {
+            x.send(5, 3, 3);
+        }
+        for (int i = 0; i < 4; i++) {
+            x.send(5, 3, 2);
+        }
+        return x;
+    }
+
+    private static void digestKeepsTheOrder() {
+        SignallingPoint x = countedPoint();
+        x.failLink(1, 0);
+        x.addRoute(1, 2, 1);
+        x.setRouteState(1, 2, 1);
+        x.addRoute(1, 0, 0);
+        x.setRouteState(1, 0, 2);
+        x.setHoldTime(7);
+        ticks(x, 9);
+        List<Integer> values = listOf(3, 2, 1, 4, 9, 7, 27, 2, 1, 6, 4, 5, 4);
+        values.addAll(List.of(1, 1, 0));
+        values.addAll(List.of(2, 0, 0, 1, 0));
+        values.addAll(List.of(3, 1, 0, 1, 0, 1, 0));
+        values.addAll(List.of(4, 1, 0, 1, 0, 1, 0));
+        values.addAll(List.of(1, 10));
+        for (int number = 8; number < 18; number++) {
+            values.add(number);
+        }
+        for (int destination = 0; destination < 6; destination++) {
+            // The states and the priorities of destination 1 and of destination 5; the others have no routes.
+            values.addAll(destination == 1 ? List.of(2, 0, NONE, NONE, 1, 1, NONE, NONE)
+                : destination == 5 ? List.of(NONE, NONE, NONE, NONE, NONE, NONE, 0, 2)
+                : List.of(NONE, NONE, NONE, NONE, NONE, NONE, NONE, NONE));
+            for (int selector = 0; selector < 16; selector++) {
+                values.add(destination == 1 ? 8 + selector % 3 : destination == 5 ? 12 + selector % 4 : NONE);
+                values.add(0);
+            }
+        }
+        values.add(0);
+        due("a digest of different values", x.digest(), hash(values));
     }
 
     private static void digestWithoutRoutes() {

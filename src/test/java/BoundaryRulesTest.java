@@ -48,6 +48,7 @@ public final class BoundaryRulesTest {
     private static void routes() {
         sentence("There are 6 destinations, numbered 0 to 5.", BoundaryRulesTest::sixDestinations);
         sentence("each route leads over a different linkset", BoundaryRulesTest::oneRouteForEachLinkset);
+        sentence("A destination has a set of routes", BoundaryRulesTest::everyRouteByItself);
         sentence("A route has a priority from 0 to 2", BoundaryRulesTest::prioritiesFromZeroToTwo);
         sentence("(0 is preferred)", BoundaryRulesTest::zeroIsPreferred);
         sentence("ALLOWED (0), RESTRICTED (1) or PROHIBITED (2)", BoundaryRulesTest::threeStates);
@@ -80,6 +81,7 @@ public final class BoundaryRulesTest {
         sentence("if the queue of the current link has 10 messages, the message is discarded",
             BoundaryRulesTest::dispatchToFullQueue);
         sentence("otherwise it is appended to that queue", BoundaryRulesTest::dispatchToTheLastPlace);
+        sentence("To dispatch a message means", BoundaryRulesTest::dispatchLooksAtNoHolding);
         sentence("(1) If the stream is held (see below), the message is appended to the holding buffer",
             BoundaryRulesTest::heldStreamFillsTheBuffer);
         sentence("if that has 24 messages, it is discarded instead and \"lost\" grows by 1",
@@ -130,6 +132,7 @@ public final class BoundaryRulesTest {
 
     private static void undo() {
         sentence("Every method that is marked \"undoable\" saves the whole state", BoundaryRulesTest::allAreSaved);
+        sentence("the whole state", BoundaryRulesTest::messagesComeBack);
         sentence("except the error counters", BoundaryRulesTest::errorCountersAreNotSaved);
         sentence("when it succeeds", BoundaryRulesTest::failedCallsAndQuestionsAreNotSaved);
         sentence("also if it changes nothing", BoundaryRulesTest::callsWithoutAChangeAreSaved);
@@ -139,7 +142,8 @@ public final class BoundaryRulesTest {
     private static void errors() {
         sentence("which grows by 1", BoundaryRulesTest::oneErrorForEachFailedCall);
         sentence("INVALID is returned before REJECTED", BoundaryRulesTest::invalidBeforeRejected);
-        sentence("INVALID before FULL", BoundaryRulesTest::invalidBeforeFull);
+        // No call can be both REJECTED and FULL: what the order decides is INVALID against FULL.
+        sentence("and REJECTED before FULL", BoundaryRulesTest::invalidBeforeFull);
         sentence("NONE is returned only if no error applies.", BoundaryRulesTest::errorsBeforeNone);
     }
 
@@ -372,6 +376,21 @@ public final class BoundaryRulesTest {
         x.failLink(2, 0);
         due("over a failed one", x.addRoute(2, 2, 1), REJECTED);
         due("of another destination", x.addRoute(3, 3, 1), 0);
+    }
+
+    private static void everyRouteByItself() {
+        SignallingPoint x = pointWith(1, 1, 1, 1);
+        for (int route = 0; route < 24; route++) {
+            due("no route yet", x.routeState(route / 4, route % 4), NONE);
+            x.addRoute(route / 4, route % 4, route % 3);
+            x.setRouteState(route / 4, route % 4, (route + 1) % 3);
+        }
+        for (int route = 0; route < 24; route++) {
+            due("state", x.routeState(route / 4, route % 4), (route + 1) % 3);
+        }
+        due("removed", x.removeRoute(2, 3), 0);
+        due("the same linkset, another destination", x.routeState(3, 3), 1);
+        due("the next destination's first", x.routeState(3, 0), 1);
     }
 
     /** How many streams go over another route when a last one is added to so many. */
@@ -661,6 +680,18 @@ public final class BoundaryRulesTest {
         fill(y, 0, 10);
         due("send", y.queued(0, 0, 9), 9);
         dueDiscarded("send", y, 0, 0, 0);
+    }
+
+    private static void dispatchLooksAtNoHolding() {
+        SignallingPoint x = simplePoint(2);
+        x.failLink(0, 0);
+        fill(x, 0, 1);
+        x.restoreLink(0, 0);
+        due("the stream is held", x.isHeld(0, 0), 1);
+        x.send(0, 0, 0);
+        due("taken", x.failLink(0, 1), 1);
+        dueQueue("dispatched at once", x, 0, 0, 0);
+        due("only the later one is in the buffer", x.heldMessages(), 1);
     }
 
     private static void heldStreamFillsTheBuffer() {
@@ -1170,6 +1201,37 @@ public final class BoundaryRulesTest {
             case 8 -> due("setHoldTime", x.setHoldTime(0), 3);
             default -> due("tick", x.tick(), 0);
         }
+    }
+
+    private static void messagesComeBack() {
+        SignallingPoint x = simplePoint(1);
+        fill(x, 0, 10);
+        x.acknowledge(0, 0, 9);
+        fill(x, 0, 2);
+        dueQueue("a queue with other messages", x, 0, 0, 9, 10, 11);
+        x.undo();
+        x.undo();
+        x.undo();
+        dueQueue("a full queue", x, 0, 0, 0, 1, 2, 3, 4, 5, 6, 7, 8, 9);
+        due("nothing is delivered", x.delivered(), 0);
+
+        // The third tick leaves the second message alone in the buffer, at another place.
+        SignallingPoint y = pointWith(2, 2);
+        y.addRoute(0, 0, 0);
+        y.addRoute(1, 1, 0);
+        moveTo(y, 0, 0);
+        y.tick();
+        moveTo(y, 1, 0);
+        y.send(0, 0, 0);
+        y.send(1, 0, 0);
+        y.tick();
+        due("the first is taken out", y.tick(), 1);
+        y.undo();
+        due("both are in the buffer", y.heldMessages(), 2);
+        due("the first again", y.tick(), 1);
+        dueQueue("the first", y, 0, 0, 0);
+        due("then the second", y.tick(), 1);
+        dueQueue("the second", y, 1, 0, 1);
     }
 
     private static void errorCountersAreNotSaved() {
