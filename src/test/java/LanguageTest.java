@@ -8,8 +8,10 @@ import java.nio.file.Path;
 import java.util.Arrays;
 import java.util.Comparator;
 import java.util.List;
+import java.util.Map;
 import java.util.Random;
 import java.util.Set;
+import java.util.TreeMap;
 import java.util.TreeSet;
 import java.util.regex.Matcher;
 import java.util.regex.Pattern;
@@ -26,8 +28,9 @@ public final class LanguageTest {
         "int undo()", "int unreachable()"
     };
     private static final String[] CONSTANTS = {
-        "ALLOWED", "FULL", "INVALID", "NONE", "PROHIBITED", "REJECTED", "RESTRICTED"
+        "ALLOWED = 0", "FULL = -4", "INVALID = -2", "NONE = -1", "PROHIBITED = 2", "REJECTED = -3", "RESTRICTED = 1"
     };
+    private static final Pattern HEADER = Pattern.compile("( {4}| {8})(?:public|private) [^=;(]*?(\\w+)\\(.*\\{");
 
     private static int wrong = 0;
 
@@ -49,7 +52,7 @@ public final class LanguageTest {
         }
     }
 
-    private static void theFaceIsTheDocuments() {
+    private static void theFaceIsTheDocuments() throws Exception {
         Class<?> c = SignallingPoint.class;
         check("the class is public and final", c.getModifiers() == (Modifier.PUBLIC | Modifier.FINAL));
         Set<String> methods = new TreeSet<>();
@@ -64,9 +67,10 @@ public final class LanguageTest {
         Set<String> constants = new TreeSet<>();
         for (Field f : c.getDeclaredFields()) {
             if (!Modifier.isPrivate(f.getModifiers())) {
-                check(f + " is an int constant", f.getType() == int.class
-                    && f.getModifiers() == (Modifier.PUBLIC | Modifier.STATIC | Modifier.FINAL));
-                constants.add(f.getName());
+                boolean isConstant = f.getType() == int.class
+                    && f.getModifiers() == (Modifier.PUBLIC | Modifier.STATIC | Modifier.FINAL);
+                check(f + " is an int constant", isConstant);
+                constants.add(isConstant ? f.getName() + " = " + f.getInt(null) : f.getName());
             }
         }
         check("the constants are the document's: " + constants, constants.equals(new TreeSet<>(List.of(CONSTANTS))));
@@ -135,22 +139,59 @@ public final class LanguageTest {
             check("rule 4: " + calls.group(), List.of("System.arraycopy", "Arrays.fill", "Math.min", "Math.max",
                 "Math.floorDiv", "Math.floorMod", "Integer.bitCount").contains(calls.group(1) + "." + calls.group(2)));
         }
-        methodsAreShort(source);
+        Map<String, String> bodies = bodiesOfMethods(code);
+        check("every public method was found", bodies.keySet().size() > FACE.length);
+        for (String name : bodies.keySet()) {
+            check("rule 11: the length of " + name, bodies.get(name).lines().count() <= 60);
+        }
+        callsStayShallow(bodies);
     }
 
-    private static void methodsAreShort(String source) {
-        int opened = 0;
-        int number = 0;
-        for (String line : source.split("\n")) {
-            number++;
-            if (line.matches("( {4}| {8})(public|private) [^=;]*\\(.*\\{")) {
-                opened = number;
-            }
-            if (line.matches("( {4}| {8})\\}") && opened > 0) {
-                check("rule 11: the method at line " + opened, number - opened <= 60);
-                opened = 0;
+    /** The lines of each method and constructor, by its name. */
+    private static Map<String, String> bodiesOfMethods(String code) {
+        Map<String, String> bodies = new TreeMap<>();
+        String name = null;
+        String margin = "";
+        StringBuilder body = new StringBuilder();
+        for (String line : code.split("\n")) {
+            Matcher header = HEADER.matcher(line.stripTrailing());
+            if (name != null && line.stripTrailing().equals(margin + "}")) {
+                check("two methods are called " + name, bodies.put(name, body.toString()) == null);
+                name = null;
+            } else if (name != null) {
+                body.append(line).append('\n');
+            } else if (header.matches() && !line.contains(" class ")) {
+                margin = header.group(1);
+                name = header.group(2);
+                body.setLength(0);
             }
         }
+        check("the last method has an end", name == null);
+        return bodies;
+    }
+
+    private static void callsStayShallow(Map<String, String> bodies) {
+        // No name is borne twice, so a name before a bracket tells which method is called.
+        Map<String, Set<String>> called = new TreeMap<>();
+        for (String caller : bodies.keySet()) {
+            Set<String> names = new TreeSet<>();
+            Matcher call = Pattern.compile("(\\w+)\\(").matcher(bodies.get(caller));
+            while (call.find()) {
+                if (bodies.containsKey(call.group(1))) {
+                    names.add(call.group(1));
+                }
+            }
+            called.put(caller, names);
+        }
+        Set<String> reached = new TreeSet<>(called.keySet());
+        int depth = 0;
+        while (!reached.isEmpty() && depth < 8) {
+            depth++;
+            Set<String> next = new TreeSet<>();
+            reached.forEach(caller -> next.addAll(called.get(caller)));
+            reached = next;
+        }
+        check("rules 8 and 11: calls go deeper than eight, to " + reached, reached.isEmpty());
     }
 
     /** Far more calls than are promised, with any arguments; an exception ends the test. */
